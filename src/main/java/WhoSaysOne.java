@@ -150,7 +150,9 @@ public final class WhoSaysOne {
         current.become(reader.read);
         playerCount = reader.playerCount;
         System.arraycopy(reader.kinds, 0, kinds, 0, PLAYERS);
-        Arrays.fill(isKept, false);
+        for (int k = 0; k < KEEPS; k++) {
+            isKept[k] = false;
+        }
         return current.size;
     }
 
@@ -680,6 +682,26 @@ public final class WhoSaysOne {
         return big;
     }
 
+    /** The place of the lowest of these bits, up to TOP; 0 if there is none above. */
+    private static int lowestOf(long bits) {
+        for (int v = 0; v <= TOP; v++) {
+            if ((bits >> v & 1) == 1) {
+                return v;
+            }
+        }
+        return 0;
+    }
+
+    /** The place of the highest of these bits, up to TOP; 0 if there is none above. */
+    private static int highestOf(long bits) {
+        for (int v = TOP; v > 0; v--) {
+            if ((bits >> v & 1) == 1) {
+                return v;
+            }
+        }
+        return 0;
+    }
+
     private static boolean isGap(long gapBits, int v) {
         return v <= TOP && (gapBits >> v & 1) == 1;
     }
@@ -717,7 +739,8 @@ public final class WhoSaysOne {
             return f == ANY_TOP || f == top ? 1 : 0;
         }
         int many = 0;
-        int end = top + Long.numberOfTrailingZeros(~gapBits & ~1L);
+        // A maker above all GAPS is not further off than the least number HAD.
+        int end = top + lowestOf(~gapBits & ~1L);
         for (int v = top + 1; v <= end && v <= TOP; v++) {
             if (isMaker(gapBits, v)) {
                 many += setsBelow(gapBits | 1L << v, v, left - 1, f);
@@ -846,12 +869,12 @@ public final class WhoSaysOne {
         /** The least above 1 that MAY be SAID; 1 if there is none. */
         int leastAboveOne() {
             long bits = openAboveOne();
-            return bits == 0 ? 1 : Long.numberOfTrailingZeros(bits);
+            return bits == 0 ? 1 : lowestOf(bits);
         }
 
         /** What a PAIR would like to say. */
         int pairNumber() {
-            return 63 - Long.numberOfLeadingZeros(open() | 1) - last();
+            return highestOf(open()) - last();
         }
 
         /** 1 can only be the last one, as it ends the GAME. */
@@ -902,7 +925,7 @@ public final class WhoSaysOne {
             int step = n;
             if (rule == DIFFERENCES && before > 1) {
                 // What was HAD are the multiples of its least number, and so they stay.
-                step = divisorOf(Long.numberOfTrailingZeros(before & ~1L), n);
+                step = divisorOf(lowestOf(before & ~1L), n);
             }
             if (step < 1 || step > TOP) {
                 return before;
@@ -972,7 +995,7 @@ public final class WhoSaysOne {
             for (int i = 0; i < ahead; i++) {
                 bits &= bits - 1;
             }
-            return Long.numberOfTrailingZeros(bits);
+            return lowestOf(bits);
         }
     }
 
@@ -1202,9 +1225,13 @@ public final class WhoSaysOne {
                 return;
             }
             int rings = divisorOf(modulus, n);
+            if (rings < 1) {
+                return;
+            }
+            int steps = 2 * modulus / rings;
             for (int ring = 0; ring < rings && ring < modulus; ring++) {
                 int here = ring;
-                for (int step = 0; step < 2 * modulus; step += rings) {
+                for (int step = 0; step < steps; step++) {
                     int next = (here + n) % modulus;
                     table[next] = Math.min(table[next], table[here] + n);
                     here = next;
@@ -1287,7 +1314,7 @@ public final class WhoSaysOne {
 
         private static int gapsBehind(int gapBits, int n) {
             int had = ~gapBits & ALL;
-            for (int sum = n; n > 0 && sum < GAPS_END; sum += n) {
+            for (int times = 1; times * n < GAPS_END && times < GAPS_END; times++) {
                 had |= had << n & ALL;
             }
             return ~had & ALL;

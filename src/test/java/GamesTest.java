@@ -51,6 +51,11 @@ public final class GamesTest {
         dueFault("n61", 3);
         dueFault("n99", 3);
         dueFault("n123", 3);
+        dueFault("n:", 1);
+        dueFault("n/", 1);
+        dueFault("n1:", 2);
+        dueFault("n3:", 2);
+        dueFault("l:", 1);
         dueFault("n5n10", 5);
         dueFault("n5n5", 4);
         dueFault("n10n5n15", 8);

@@ -19,6 +19,8 @@ public final class LanguageTest {
         "Random", "Thread", "Exact", "Object", "HashMap", "BigInteger", "hashCode", "equals", "toString",
         "yield", "->", "::", "@\\w+", "while \\(true\\)", "for \\(;;\\)", "volatile", "native", "transient",
         "List", "Stream", "Class", "Runnable", "Comparator"};
+    private static final Set<String> LIBRARY = Set.of("System.arraycopy", "Arrays.fill", "Arrays.copyOf",
+            "Arrays.copyOfRange", "Integer.bitCount", "Long.bitCount", "Math.min", "Math.max", "Math.abs");
     private static final int MOST_LINES = 60, MOST_CLASSES = 12, MOST_FIELDS = 20, MOST_PARAMETERS = 7;
 
     public static void main(String[] args) throws IOException {
@@ -40,6 +42,10 @@ public final class LanguageTest {
         Matcher imports = Pattern.compile("import ([\\w.]+);").matcher(code);
         while (imports.find()) {
             CHECK.due("import " + imports.group(1), imports.group(1).equals("java.util.Arrays") ? 1 : 0, 1);
+        }
+        Matcher calls = Pattern.compile("\\b(System|Arrays|Integer|Long|Math|String)\\.\\w+").matcher(code);
+        while (calls.find()) {
+            CHECK.due("of the library: " + calls.group(), LIBRARY.contains(calls.group()) ? 1 : 0, 1);
         }
         // All that a run needs is made with the object: no call makes more.
         for (String line : code.split("\n")) {

@@ -28,6 +28,8 @@ public final class SayingTest {
         x = Check.of("l1 n20");
         CHECK.due("by taking off, too", x.say(30), 54);
         CHECK.due("say(10)", x.say(10), -4);
+        x = Check.of("l1 n60");
+        CHECK.due("15 in common", x.say(45), 56);
         x = Check.of("l2 n20");
         CHECK.due("three times at most", x.say(7), 60 - 11);
         CHECK.due("say(28)", x.say(28), 60 - 18);

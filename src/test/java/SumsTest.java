@@ -93,6 +93,8 @@ public final class SumsTest {
         dueJust(x, 80, 20, 1);
         dueJust(x, 60, 20, 11);
         dueJust(x, 2, 1, 1);
+        dueJust(x, 1, 1, 0);
+        dueJust(x, 400, 20, 0);
         CHECK.due("byJust(0, 1)", x.byJust(0, 1), -1);
         CHECK.due("byJust(401, 1)", x.byJust(401, 1), -1);
         CHECK.due("byJust(1, 0)", x.byJust(1, 0), -1);
@@ -161,6 +163,14 @@ public final class SumsTest {
         CHECK.due("rest(59, 0)", x.rest(59, 0), 59 * 60);
         CHECK.due("rest(60, 1)", x.rest(60, 1), -9);
         CHECK.due("nothing SAID", new WhoSaysOne().rest(7, 0), -9);
+        x = new WhoSaysOne();
+        x.say(1);
+        CHECK.due("1 alone", x.rest(5, 3), 3);
+        CHECK.due("1 alone", x.rest(2, 1), 1);
+        CHECK.due("above 0", x.rest(2, 0), 2);
+        x = Check.of("n8");
+        x.say(1);
+        CHECK.due("1 behind another", x.rest(7, 1), 1);
         x = Check.of("l1n5");
         CHECK.due("another LAW", x.rest(3, 1), -4);
         CHECK.due("BAD first", x.rest(3, 3), -1);

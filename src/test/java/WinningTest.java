@@ -129,6 +129,7 @@ public final class WinningTest {
         dueSays("l1 g n30", 15);
         dueSays("l1 s n30n20", 3);
         dueSays("l2 a n3n7n8", 52);
+        dueSays("l2 g n3n4n22", 60);
         WhoSaysOne x = Check.of("p n2");
         CHECK.due("says(1)", x.says(1), -1);
         CHECK.due("says(-1)", x.says(-1), -1);
