@@ -172,7 +172,8 @@ public final class WhoSaysOne {
         if (!isOf(one, kind)) {
             return found(UNLIKE);
         }
-        if (one instanceof Small && current.isOver()) {
+        // Only what it SAYS asks for a GAME that goes on; a LONG one asked by its own KIND tells what MAY be.
+        if (kind == SMALL && current.isOver()) {
             return STATE;
         }
         switch (kind) {
@@ -477,13 +478,16 @@ public final class WhoSaysOne {
             return found(UNLIKE);
         }
         rows[to].begin(0, 0);
+        // There may be more of them (of 1 .. 60 as GAPS 61) than come to the ROW, so they are counted apart.
+        int many = 0;
         // What lies further than the least number HAD behind the last GAP is a sum with that number.
         for (int v = 1; v <= 2 * TOP + 1; v++) {
             if (isMaker(gapBits, v)) {
                 rows[to].add(v);
+                many++;
             }
         }
-        return rows[to].size;
+        return many;
     }
 
     public int tree(int n, int f) {

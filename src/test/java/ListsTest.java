@@ -70,8 +70,10 @@ public final class ListsTest {
         }
         Check.fill(x, 0, all);
         CHECK.due("list(0)", x.list(0), 1);
-        CHECK.due("60 at most", x.makes(0, 1), 60);
-        CHECK.due("at(1, 59)", x.at(1, 59), 1);
+        CHECK.due("61 .. 121 make them", x.makes(0, 1), 61);
+        CHECK.due("at(1, 0)", x.at(1, 0), 1);
+        CHECK.due("the first one", x.asked(), 61);
+        CHECK.due("60 at most come to the ROW: at(1, 59)", x.at(1, 59), 1);
         CHECK.due("the last one", x.asked(), 120);
         CHECK.due("at(1, 60)", x.at(1, 60), -3);
         x.row(2, 59);
@@ -79,6 +81,10 @@ public final class ListsTest {
         CHECK.due("60 of them", x.makes(2, 3), 60);
         CHECK.due("at(3, 59)", x.at(3, 59), 1);
         CHECK.due("the last one", x.asked(), 119);
+        CHECK.due("all into itself", x.makes(0, 0), 61);
+        CHECK.due("at(0, 59)", x.at(0, 59), 1);
+        CHECK.due("the last one", x.asked(), 120);
+        CHECK.due("at(0, 60)", x.at(0, 60), -3);
     }
 
     private static void makesRefused() {

@@ -464,7 +464,7 @@ final class Model {
         if (!isOf(p, kind)) {
             return find(3);
         }
-        if (isOf(p, 1) && over()) {
+        if (kind == 1 && over()) {
             return STATE;
         }
         TreeSet<Integer> open = open();
@@ -825,7 +825,7 @@ final class Model {
             }
         }
         setRow(to, makers);
-        return rows[to].length;
+        return makers.size();
     }
 
     /** By number of GAPS and greatest GAP (18: in all), of all sets of numbers 1 .. 17. */
