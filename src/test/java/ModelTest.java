@@ -58,6 +58,10 @@ public final class ModelTest {
                 call += fillRow();
             } else if (what < 25) {
                 call += one("say", new Object[] {sayable()});
+            } else if (what < 27) {
+                call += askAll();
+            } else if (what == 27 && call < 400) {
+                call += fillFrom1();
             } else {
                 int m = random.nextInt(ours.size());
                 call += both(m, arguments(ours.get(m)));
@@ -167,6 +171,34 @@ public final class ModelTest {
         }
         calls += one("fault", new Object[] {t});
         return calls + one("game", new Object[] {t});
+    }
+
+    /** Often behind a 1, as a GAME that is OVER is met too seldom else: all that PLAYERS tell and SAY. */
+    private int askAll() throws ReflectiveOperationException {
+        int calls = 0;
+        if (random.nextBoolean()) {
+            calls += one("say", new Object[] {1});
+        }
+        for (int p = 0; p < 2; p++) {
+            for (int kind = 1; kind <= 5; kind++) {
+                calls += one("mark", new Object[] {p, kind});
+            }
+            calls += one("says", new Object[] {p});
+        }
+        calls += one("turn", new Object[0]);
+        return calls + one("undo", new Object[] {random.nextInt(3)});
+    }
+
+    /** The longest lists: 1 and all that follow, mostly up to 60, where most numbers make them. */
+    private int fillFrom1() throws ReflectiveOperationException {
+        int r = random.nextInt(6);
+        int n = random.nextInt(3) == 0 ? random.nextInt(60) : 58 + random.nextInt(3);
+        int calls = one("row", new Object[] {r, n});
+        for (int i = 0; i < n; i++) {
+            calls += one("lay", new Object[] {r, i, i + 1});
+        }
+        calls += one("list", new Object[] {r});
+        return calls + one("makes", new Object[] {r, random.nextInt(6)});
     }
 
     /** GAPS of the GAME, or some that are nearly such ones. */
