@@ -880,6 +880,8 @@ final class TermBounds {
     private void saysBest() {
         dueSays("b n4n5", 11);
         dueSays("b n2n7", 3);
+        dueSays("b n3n4n5", 2);
+        dueSays("b n3n5", 2);
         WhoSaysOne x = Check.of("b n6n7n8");
         x.best(0);
         x.at(0, 0);

@@ -77,6 +77,7 @@ final class WinBounds {
         dueWhose("n4n5", 1, 1);
         dueWhose("n4n5n11", 0, 0);
         dueWhose("n4n6n5", 1, 1);
+        dueWhose("n3n4n5", 1, 1);
     }
 
     private void whoseHowMany() {
@@ -134,6 +135,12 @@ final class WinBounds {
             last = n;
         }
         s.dueFinding(x, "at(1, 3)", x.at(1, 3), 2);
+        x = Check.of("n3n4n5");
+        s.due("2 leaves 1 alone: best(1)", x.best(1), 1);
+        s.dueRow(x, 1, 2);
+        x = Check.of("n2n29");
+        s.due("3 leaves 1 alone: best(1)", x.best(1), 1);
+        s.dueRow(x, 1, 3);
     }
 
     private void bestAnew() {
