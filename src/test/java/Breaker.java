@@ -7,6 +7,7 @@ import java.net.URI;
 import java.nio.file.Files;
 import java.nio.file.Path;
 import java.util.ArrayList;
+import java.util.Collections;
 import java.util.Comparator;
 import java.util.HashMap;
 import java.util.LinkedHashSet;
@@ -179,23 +180,30 @@ public final class Breaker {
     }
 
     /** The tests that fail; something, if they do not come to an end. */
-    @SuppressWarnings({"deprecation", "removal"})
     private Set<String> brokenTests(Map<String, byte[]> classes) {
-        Set<String> by = new LinkedHashSet<>();
+        Set<String> by = Collections.synchronizedSet(new LinkedHashSet<>());
         Thread run = new Thread(() -> by.addAll(runTests(classes)));
         run.setDaemon(true);
         run.start();
         try {
             run.join(MOST_MILLISECONDS);
             if (run.isAlive()) {
-                run.stop();
-                run.join();
+                stop(run);
                 by.add("no end");
             }
         } catch (InterruptedException stopped) {
             by.add("stopped");
         }
-        return by;
+        return Set.copyOf(by);
+    }
+
+    /** By its name, as later Javas do not have it; there it goes on until the end. */
+    private static void stop(Thread run) {
+        try {
+            Thread.class.getMethod("stop").invoke(run);
+        } catch (ReflectiveOperationException none) {
+            run.interrupt();
+        }
     }
 
     private Set<String> runTests(Map<String, byte[]> classes) {
